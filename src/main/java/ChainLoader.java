@@ -7,7 +7,7 @@ public final class ChainLoader {
 
     private static final int TAPE_LIMIT = 1040;
     private static final int FEED_BYTES = 20;
-    // The largest image that can be told has 6357 bytes, and only write() makes one longer.
+    // Only write() makes an image longer, and the longest that can be told has 6357 bytes.
     private static final int IMAGE_LIMIT = 6400;
 
     private static final int NAME_LIMIT = 16;
@@ -110,7 +110,9 @@ public final class ChainLoader {
     }
 
     private void feedNumber(int number) {
-        tape.add(4, Integer.reverseBytes(number));
+        for (int shift = 24; shift >= 0; shift -= 8) {
+            tape.add(1, number >>> shift);
+        }
     }
 
     public boolean end(int n) {
@@ -1458,7 +1460,10 @@ public final class ChainLoader {
                 int address = fixups.visits.address[k] + slide;
                 long bits = fixups.visits.bits[k];
                 visits.add(address, bits);
-                memory.put(segments.placeOf(address, POINTER_BYTES), POINTER_BYTES, fixups.valueOf(bits, slide));
+                int at = segments.placeOf(address, POINTER_BYTES);
+                if (at != NONE) {
+                    memory.put(at, POINTER_BYTES, fixups.valueOf(bits, slide));
+                }
             }
         }
 
