@@ -450,10 +450,6 @@ public final class ChainLoader {
                 row.addZeros(1);
             }
         }
-
-        boolean isAt(int number, Row row, int from) {
-            return has(number) && row.reads(from, bytes, number * NAME_LIMIT, sizes[number]);
-        }
     }
 
     /** What is told, of which an image is written. */
@@ -615,7 +611,8 @@ public final class ChainLoader {
         }
 
         int firstPointer(int s, int from, int end) {
-            for (int place = from; place < end; place += 4) {
+            int last = Math.min(end, SEGMENT_BYTES) - 4;
+            for (int place = from; place <= last; place += 4) {
                 if (hasPointer(s, place)) {
                     return place;
                 }
@@ -883,7 +880,7 @@ public final class ChainLoader {
 
         private int indexOf(int library, Row row, int from) {
             for (int k = 0; k < names.total; k++) {
-                if (libraries[k] == library && names.isAt(k, row, from)) {
+                if (libraries[k] == library && row.reads(from, names.bytes, k * NAME_LIMIT, names.sizes[k])) {
                     return k;
                 }
             }
@@ -1065,7 +1062,7 @@ public final class ChainLoader {
         private boolean commandHolds(int p) {
             long kind = u4(p);
             if (kind == SEGMENT_COMMAND) {
-                return segmentHolds(p) && sectionsHold(p);
+                return segmentHolds(p) && spanHolds(p) && sectionsHold(p);
             }
             if (kind == SYMTAB_COMMAND) {
                 return symtabHolds(p);
@@ -1082,8 +1079,7 @@ public final class ChainLoader {
                 && fault.unless(size >= SEGMENT_HEAD, BAD_COMMAND, p + 4)
                 && fault.unless(size == SEGMENT_HEAD + SECTION_HEAD * u4(p + 64), BAD_COMMAND, p + 4)
                 && numberHolds(p + 24) && numberHolds(p + 32)
-                && numberHolds(p + 40) && numberHolds(p + 48)
-                && spanHolds(p);
+                && numberHolds(p + 40) && numberHolds(p + 48);
         }
 
         private boolean spanHolds(int p) {

@@ -5,6 +5,7 @@ public final class FaultTest {
     public static void main(String[] args) {
         head();
         commands();
+        sixteenCommands();
         fifthSegment();
         segment();
         segmentsOver();
@@ -85,6 +86,23 @@ public final class FaultTest {
         t.patch(188, 4, 0);
         t.dueLoad(0, 0, -1);
         t.due("SEGMENTS loaded", t.x.count(7), 0);
+    }
+
+    private static void sixteenCommands() {
+        Probe t = new Probe("sixteen commands");
+        t.segment("a", 1, 0);
+        t.section("s", 0, 0, 1);
+        t.x.write();
+        // The segment's command becomes fourteen that are passed by.
+        t.patch(16, 4, 16);
+        for (int p = 32; p < 32 + 152; p += 8) {
+            t.patch(p, 8, 1 | 8L << 32);
+        }
+        t.patch(32, 8, 1 | 48L << 32);
+        t.patch((int) t.read(32 + 152 + 24 + 8, 4) + 28, 4, 0);
+        t.dueLoad(0, 0, -1);
+        t.dueFault(16, 4, 17, 3, 16);
+        t.dueFault(16, 4, 15, 3, 32 + 152 + 24);
     }
 
     private static void fifthSegment() {
@@ -313,6 +331,8 @@ public final class FaultTest {
         t.dueFault(188, 4, 0, 9, 188);
         t.dueFault(188, 4, 2, 9, 188);
         t.dueFault(188, 4, 0x10001, 9, 188);
+        t.dueFault(184, 4, 0x1000000, 9, 184);
+        t.dueFault(140, 4, 28, 9, 164);
         t.dueFault(140, 4, 28 + 7, 9, 188);
         t.dueFault(140, 4, 28 + 3, 9, 164);
         t.dueFault(176, 4, 65, 9, 176);
@@ -348,6 +368,9 @@ public final class FaultTest {
         t.dueFault(f + 12, 4, 0xFFFFFFFFL, 9, i);
         t.dueFault(f + 12, 4, 0, 0, -1);
         t.dueFault(32 + 72 + 24 + 12, 4, names + 7 - f, 9, i + 4);
+        int size = names + 8 - f;
+        t.dueFault(f + 8, 4, size - 7, 9, f + 8);
+        t.dueFault(f + 8, 4, size - 8, 9, f + size - 8);
         t.dueFault(i, 1, 99, 0, -1);
         // Now the import that is bound is no longer weak, and its library is none.
         t.dueFault(i + 4, 4, 99 | 4 << 9, 12, 0);
@@ -403,6 +426,7 @@ public final class FaultTest {
         t.patch(168, 8, 0);
         t.dueFault(140, 4, 59, 9, 196);
         t.dueFault(140, 4, 57, 9, 192);
+        t.dueFault(140, 4, 58, 9, 196);
         t.patch(168, 4, 60);
         for (int page : new int[] {0, 128, 255, 257, 384, 8192, 0xFFFF}) {
             t.dueFault(200, 2, page, 9, 200);
@@ -488,6 +512,7 @@ public final class FaultTest {
         }
         t.dueFault(at + 8, 8, 1L << 63 | 2, 11, where + 8);
         t.dueFault(at + 8, 8, 1L << 63 | 0xFFFFFF, 11, where + 8);
+        t.dueFault(at + 8, 8, 1L << 63 | 0x800000, 11, where + 8);
         t.dueFault(at + 8, 8, 1L << 63 | 1, 12, where + 8);
         t.dueFault(at + 8, 8, 1L << 63 | 1 | 1L << 51, 12, where + 8);
         t.dueFault(at + 8, 8, 1L << 63 | 1 | 1L << 44, 11, where + 8);
@@ -543,10 +568,15 @@ public final class FaultTest {
         t.patch(152, 8, 1L << 51);
         t.dueLoad(-65537, 10, 8);
         t.patch(152, 8, 0);
+        t.patch(192, 4, 0);
+        t.patch(80, 8, 1);
+        t.patch(64, 8, 1);
+        t.dueLoad(-65537, 13, 0);
+        t.dueLoad((int) MOST - 65536, 0, -1);
+        t.dueLoad((int) MOST - 65535, 13, 0);
         // Without a span no byte lies anywhere.
         t.patch(64, 8, 0);
         t.patch(80, 8, 0);
-        t.patch(192, 4, 0);
         t.dueLoad(-65537, 0, -1);
         t.dueLoad(Integer.MIN_VALUE, 0, -1);
         t.due("SEGMENTS loaded", t.x.count(7), 1);

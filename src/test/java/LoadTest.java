@@ -3,10 +3,12 @@ public final class LoadTest {
     public static void main(String[] args) {
         exports();
         thirtyExports();
+        longNames();
         values();
         slides();
         negativeSlide();
         manySegments();
+        lastPointerOfAll();
         visits();
         spanBehindBytes();
         pointerOverTheEndOfBytes();
@@ -65,6 +67,23 @@ public final class LoadTest {
         t.due("a 31st", t.export("f", 1, 0), false);
         t.due("one that is there", t.export("e0", 1, 5), true);
         t.due("thirty", t.x.count(6), 30);
+    }
+
+    private static void longNames() {
+        Probe t = new Probe("exports of sixteen bytes");
+        t.segment("a", 1024, 0);
+        for (int k = 0; k < 30; k++) {
+            t.due("export " + k, t.export("sixteen.bytes." + (10 + k), 1, 1000 + k), true);
+        }
+        for (int k = 10; k < 30; k++) {
+            t.imports("sixteen.bytes." + (10 + k), 1, false);
+            t.x.bind(0, 8 * k, k - 10, 0);
+        }
+        t.x.write();
+        t.dueLoad(0, 0, -1);
+        for (int k = 10; k < 30; k++) {
+            t.duePointer(65536 + 8 * k, 1000 + k);
+        }
     }
 
     private static void values() {
@@ -160,6 +179,21 @@ public final class LoadTest {
         t.duePointer(8192, 512);
     }
 
+    private static void lastPointerOfAll() {
+        Probe t = new Probe("a pointer at the end of the largest memory");
+        t.x.anew(4096, 4096);
+        for (int s = 0; s < 4; s++) {
+            t.segment("s" + s, 1024, 0);
+        }
+        t.x.rebase(3, 0, 7, 0);
+        t.x.write();
+        t.patch((int) t.read(32 + 3 * 72 + 40, 8), 8, 7 | 1022L << 51);
+        t.dueLoad(1, 0, -1);
+        t.dueVisit(1, 1 + 4096 * 5 - 8, false, 0, 0);
+        t.duePointer(1 + 4096 * 4, 8);
+        t.duePointer(1 + 4096 * 5 - 8, 1);
+    }
+
     private static void visits() {
         Probe t = new Probe("promise 22");
         t.segment("a", 600, 0);
@@ -204,12 +238,14 @@ public final class LoadTest {
     private static void pointerOverTheEndOfBytes() {
         Probe t = new Probe("a pointer over the end of a segment's bytes");
         t.segment("a", 16, 0);
+        t.segment("b", 16, 0);
         t.tape("0123456789abcdef").x.fill(0, 0);
+        t.tape("ghij").x.fill(1, 0);
         t.x.rebase(0, 0, 1, 1);
         t.x.write();
-        // From 12 on the image has four bytes of the pointer; the bytes behind them in the image are not its.
-        t.patch(144, 8, 1 | 1L << 36 | 3L << 51);
-        t.patch(160, 4, 0);
+        // From 12 on the image has four bytes of the pointer; those behind them are the other segment's.
+        t.patch(32 + 144 + 40, 8, 1 | 1L << 36 | 3L << 51);
+        t.dueText("the bytes in the image", 32 + 144 + 40 + 12, "cdefghij");
         t.dueLoad(0, 0, -1);
         t.dueVisit(1, 65548, false, 0x66656463L, 0);
         t.duePointer(65548, 0x66656463L);
