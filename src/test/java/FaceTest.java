@@ -38,11 +38,13 @@ public final class FaceTest {
             t.due("constructor's parameters", c.getParameterCount(), 0);
         }
         newObject();
+        newObjectsShareNothing();
+        fiveHundredAndTwelveCalls();
         Probe.finish();
     }
 
     private static void newObject() {
-        Probe t = new Probe("promise 1");
+        Probe t = new Probe("promise 1: BASE 65536, PAGE 256, nothing told, an empty IMAGE, nothing loaded");
         t.dueCounts(0, 0, 0, 0, 0, 0, 0, 0, 0, 0, 0, -1);
         t.due("count(-1)", t.x.count(-1), -1);
         t.due("place()", t.x.place(), -1);
@@ -55,5 +57,29 @@ public final class FaceTest {
         t.x.write();
         t.dueNumber("BASE", 56, 8, 65536);
         t.dueNumber("SPAN, so PAGE", 64, 8, 512);
+    }
+
+    private static void newObjectsShareNothing() {
+        Probe other = Images.rich("promise 1: another object");
+        other.dueLoad(0, 0, -1);
+        other.x.feed(1, 2, 3, 4, 5);
+        other.x.damage(0, 0);
+        other.dueLoad(0, 2, 0);
+        Probe t = new Probe("promise 1: nothing of another object");
+        t.dueCounts(0, 0, 0, 0, 0, 0, 0, 0, 0, 0, 0, -1);
+        t.due("place()", t.x.place(), -1);
+        t.dueMemory(65536, -1);
+        other.dueCounts(2, 3, 2, 2, 5, 1228, 1, 2, 5, 2, 20, -1);
+    }
+
+    private static void fiveHundredAndTwelveCalls() {
+        Probe t = Images.rich("at most 512 calls");
+        t.dueLoad(0, 0, -1);
+        while (t.x.calls() < Counted.MOST_CALLS - 2) {
+            t.dueMemory(65536, 112);
+        }
+        t.due("the 511th, load(0)", t.x.load(3), 0);
+        t.dueMemory(65539, 115);
+        t.due("calls", t.x.calls(), Counted.MOST_CALLS);
     }
 }

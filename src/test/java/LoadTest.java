@@ -1,76 +1,169 @@
-/** Promises 17 to 24: what stands behind a load. */
+/** Promises 17 and 18: exports, and what a load leaves. One method for each sentence that names an edge. */
 public final class LoadTest {
+    private static final long TARGET_MOST = (1L << 36) - 1;
+
     public static void main(String[] args) {
-        exports();
+        exportNames();
+        exportLibraries();
+        exportAddresses();
         thirtyExports();
-        longNames();
-        values();
-        slides();
-        negativeSlide();
-        manySegments();
+        exportAgain();
+        exportsOfOtherLibraries();
+        refusedExportLeavesTheOther();
+        exportsBelongToTheLoader();
+        exportOfTheLongestName();
+        everyFaultLeavesWhatWasLoaded();
+        loadedAnew();
+        largestMemoryLoadedAnew();
+        largestMemoryOfBytes();
+        withoutSymtabBehindOneWith();
+        withoutChainsBehindOneWith();
+        imageStaysAsItIs();
+        spansThenZero();
+        segmentsAtTheirSlide();
+        rebaseAndSlide();
+        rebaseBelowZero();
+        rebaseHigh();
+        bindAndAdded();
+        weakWithoutExport();
+        visitsInOrder();
         lastPointerOfAll();
-        visits();
-        spanBehindBytes();
-        pointerOverTheEndOfBytes();
-        symbols();
-        oddSymbolNames();
-        wrappedSymbols();
-        whatWasLoadedStays();
-        importsByLibrary();
+        symbolsModulo();
+        loadTakesNoTape();
         Probe.finish();
     }
 
-    private static void exports() {
-        Probe t = new Probe("promise 17");
-        t.due("no NAME", t.export("", 1, 0), false);
-        t.due("no NAME", t.export("seventeen.bytes.!", 1, 0), false);
-        t.due("no library 0", t.export("e", 0, 0), false);
-        t.due("no library 4", t.export("e", 4, 0), false);
-        t.due("address -1", t.export("e", 1, -1), false);
-        t.due("address min", t.export("e", 1, Integer.MIN_VALUE), false);
-        t.due("the tape is empty", t.x.count(10), 0);
-        t.due("none yet", t.x.count(6), 0);
-        t.due("export", t.export("e", 1, 0), true);
-        t.due("the tape is empty", t.x.count(10), 0);
-        t.due("again", t.export("e", 1, 700), true);
-        t.due("one", t.x.count(6), 1);
-        t.due("of another library", t.export("e", 2, Integer.MAX_VALUE), true);
-        t.due("a longer one", t.export("ee", 1, 900), true);
-        t.due("three", t.x.count(6), 3);
-        t.segment("a", 32, 0);
-        t.imports("e", 1, false);
-        t.imports("e", 2, false);
-        t.imports("ee", 1, false);
-        t.imports("e", 3, true);
-        for (int k = 0; k < 4; k++) {
-            t.x.bind(0, 8 * k, k, k);
+    private static void exportNames() {
+        TellingTest.names("promise 17: false: no NAME", Probe::new, t -> t.x.export(1, 0) ? 1 : 0, 1, 0);
+    }
+
+    private static void exportLibraries() {
+        int[][] rows = {{-1, 0}, {0, 0}, {1, 1}, {2, 1}, {3, 1}, {4, 0}, {255, 0}, {257, 0}, {Probe.MIN, 0},
+            {Probe.MAX, 0}};
+        for (int[] r : rows) {
+            Probe t = new Probe("promise 17: false: no such LIBRARY");
+            t.due("export(" + r[0] + ", 0)", t.export("e", r[0], 0), r[1] == 1);
+            t.dueCount(6, r[1]);
         }
-        t.x.write();
-        t.dueLoad(0, 0, -1);
-        t.duePointer(65536, 700);
-        t.duePointer(65544, (1L << 31) - 1 + 1);
-        t.duePointer(65552, 902);
-        t.duePointer(65560, 3);
-        t.due("a later address", t.export("e", 1, 44), true);
-        t.duePointer(65536, 700);
-        t.dueLoad(0, 0, -1);
-        t.duePointer(65536, 44);
-        t.x.anew(0, 256);
-        t.due("exports stay", t.x.count(6), 3);
+    }
+
+    private static void exportAddresses() {
+        int[][] rows = {{-1, 0}, {0, 1}, {1, 1}, {Probe.MAX - 1, 1}, {Probe.MAX, 1}, {Probe.MIN, 0}};
+        for (int[] r : rows) {
+            Probe t = new Probe("promise 17: false: an address below 0");
+            t.due("export(1, " + r[0] + ")", t.export("e", 1, r[0]), r[1] == 1);
+            t.dueCount(6, r[1]);
+            t.segment("a", 8, 0);
+            t.imports("e", 1, true);
+            t.x.bind(0, 0, 0, 0);
+            t.x.write();
+            t.dueLoad(0, 0, -1);
+            t.duePointer(65536, r[1] == 1 ? r[0] : 0);
+        }
     }
 
     private static void thirtyExports() {
-        Probe t = new Probe("30 exports");
-        for (int k = 0; k < 30; k++) {
+        Probe t = new Probe("promise 17: false: there are 30");
+        for (int k = 0; k < 29; k++) {
             t.due("export " + k, t.export("e" + k / 3, 1 + k % 3, k), true);
         }
+        t.dueCount(6, 29);
+        t.due("a 30th", t.export("last", 1, 29), true);
+        t.dueCount(6, 30);
         t.due("a 31st", t.export("f", 1, 0), false);
-        t.due("one that is there", t.export("e0", 1, 5), true);
-        t.due("thirty", t.x.count(6), 30);
+        t.due("a 31st, of a NAME that another LIBRARY has", t.export("last", 2, 0), false);
+        t.dueCount(6, 30);
+        t.due("the first again", t.export("e0", 1, 5), true);
+        t.due("the last again", t.export("last", 1, 6), true);
+        t.dueCount(6, 30);
+        t.due("a 31st", t.export("f", 1, 0), false);
+        t.segment("a", 24, 0);
+        t.imports("e0", 1, true);
+        t.imports("last", 1, true);
+        t.imports("f", 1, true);
+        for (int k = 0; k < 3; k++) {
+            t.x.bind(0, 8 * k, k, 0);
+        }
+        t.x.write();
+        t.dueLoad(0, 0, -1);
+        t.duePointer(65536, 5);
+        t.duePointer(65544, 6);
+        t.duePointer(65552, 0);
     }
 
-    private static void longNames() {
-        Probe t = new Probe("exports of sixteen bytes");
+    private static Probe bound(String title) {
+        Probe t = new Probe(title);
+        t.segment("a", 24, 0);
+        t.imports("e", 1, true);
+        t.imports("e", 2, true);
+        t.imports("ee", 1, true);
+        for (int k = 0; k < 3; k++) {
+            t.x.bind(0, 8 * k, k, 0);
+        }
+        t.x.write();
+        return t;
+    }
+
+    private static void exportAgain() {
+        Probe t = bound("promise 17: it has that address, again, if it was there");
+        t.due("export", t.export("e", 1, 700), true);
+        t.dueLoad(0, 0, -1);
+        t.duePointer(65536, 700);
+        t.due("again", t.export("e", 1, 44), true);
+        t.dueCount(6, 1);
+        t.duePointer(65536, 700);
+        t.dueLoad(0, 0, -1);
+        t.duePointer(65536, 44);
+        t.due("again, with 0", t.export("e", 1, 0), true);
+        t.dueLoad(0, 0, -1);
+        t.duePointer(65536, 0);
+        t.dueCount(6, 1);
+    }
+
+    private static void exportsOfOtherLibraries() {
+        Probe t = bound("promise 17: NAMES of LIBRARIES are others");
+        t.due("export", t.export("e", 1, 1), true);
+        t.due("of another LIBRARY", t.export("e", 2, 2), true);
+        t.due("of a longer NAME", t.export("ee", 1, 3), true);
+        t.due("of a third LIBRARY", t.export("e", 3, 4), true);
+        t.dueCount(6, 4);
+        t.dueLoad(0, 0, -1);
+        t.duePointer(65536, 1);
+        t.duePointer(65544, 2);
+        t.duePointer(65552, 3);
+    }
+
+    private static void refusedExportLeavesTheOther() {
+        Probe t = bound("promise 17: one that is refused leaves the EXPORT that is there");
+        t.export("e", 1, 700);
+        t.due("address -1", t.export("e", 1, -1), false);
+        t.due("LIBRARY 0", t.export("e", 0, 5), false);
+        t.due("LIBRARY 4", t.export("e", 4, 5), false);
+        t.due("no NAME", t.export("e ", 1, 5), false);
+        t.dueCount(6, 1);
+        t.dueLoad(0, 0, -1);
+        t.duePointer(65536, 700);
+        t.duePointer(65544, 0);
+    }
+
+    private static void exportsBelongToTheLoader() {
+        Probe t = new Probe("promise 17: EXPORTS belong to the loader");
+        t.export("e", 1, 700);
+        t.x.anew(0, 256);
+        t.dueCount(6, 1);
+        t.segment("a", 8, 0);
+        t.imports("e", 1, false);
+        t.x.bind(0, 0, 0, 0);
+        t.x.write();
+        t.dueLoad(0, 0, -1);
+        t.duePointer(0, 700);
+        t.x.cut(0);
+        t.dueLoad(0, 1, 0);
+        t.dueCount(6, 1);
+    }
+
+    private static void exportOfTheLongestName() {
+        Probe t = new Probe("promise 17: EXPORTS of NAMES of sixteen bytes, one behind another");
         t.segment("a", 1024, 0);
         for (int k = 0; k < 30; k++) {
             t.due("export " + k, t.export("sixteen.bytes." + (10 + k), 1, 1000 + k), true);
@@ -86,101 +179,286 @@ public final class LoadTest {
         }
     }
 
-    private static void values() {
-        Probe t = new Probe("promises 18 to 21");
+    /** A number of the image Images.rich for each kind of fault, and the fault's place. */
+    private static final long[][] FAULTS = {{1, 424, 4, 1228, 424}, {2, 0, 1, 0, 0}, {3, 16, 4, 17, 16},
+        {4, 440, 1, 0x35, 440}, {5, 212, 4, 1, 208}, {6, 208, 4, 65536 + 511, 208}, {7, 368, 4, 3, 336},
+        {8, 1205, 1, 4, 1205}, {9, 1136, 2, 257, 1136}, {10, 1156, 2, 252, 1156}, {11, 1021, 1, 16, 768},
+        {12, 1164, 1, 3, 516}};
+
+    private static void everyFaultLeavesWhatWasLoaded() {
+        for (long[] r : FAULTS) {
+            Probe t = Images.rich("promise 18: FAULT " + r[0] + ": what was loaded stays");
+            t.dueLoad(100, 0, -1);
+            t.patch(456 + 20, 1, 77);
+            t.patch((int) r[1], (int) r[2], r[3]);
+            t.dueLoad(0, (int) r[0], (int) r[4]);
+            asLoadedAt100(t);
+        }
+        Probe t = Images.rich("promise 18: FAULT 13: what was loaded stays");
+        t.dueLoad(100, 0, -1);
+        t.patch(456 + 20, 1, 77);
+        t.dueLoad(Probe.MIN, 13, 0);
+        asLoadedAt100(t);
+        t.x.cut(0);
         t.dueLoad(0, 1, 0);
-        t.segment("a", 21, 0);
-        t.tape("abcdefghijklmnopqrstu").x.fill(0, 0);
-        t.x.rebase(0, 8, 0x123456789L, 0xAB);
+        asLoadedAt100(t);
+    }
+
+    private static void asLoadedAt100(Probe t) {
+        t.dueCount(7, 2);
+        t.dueCount(8, 5);
+        t.dueCount(9, 2);
+        t.dueMemory(65536 + 99, -1);
+        t.dueMemory(65536 + 100 + 20, 0);
+        t.dueMemory(65536 + 100 + 1023, 0);
+        t.dueMemory(65536 + 100 + 1024, -1);
+        t.duePointer(65636, 70100 | 5L << 56);
+        t.duePointer(65636 + 516, 1003);
+        t.dueVisit(0, 65636, false, 70000, 5);
+        t.dueVisit(3, 65636 + 516, true, 1, 3);
+        t.dueVisit(4, 65636 + 768, false, 2, 0);
+        t.dueNoVisit(5, 0);
+        t.due("find()", t.find("beta"), 65636 + 512 + 107);
+    }
+
+    private static void loadedAnew() {
+        Probe t = Images.rich("promise 18: what is loaded takes the place of what was");
+        t.dueLoad(0, 0, -1);
+        t.dueLoad(4096, 0, -1);
+        t.dueMemory(65536, -1);
+        t.dueMemory(65536 + 4096, 112);
+        t.dueCounts(2, 3, 2, 2, 5, 1228, 1, 2, 5, 2, 0, -1);
+        t.x.anew(0, 256);
         t.x.write();
         t.dueLoad(0, 0, -1);
-        t.dueCounts(1, 0, 0, 0, 1, t.x.count(5), 0, 1, 1, 0, 0, -1);
-        t.due("memory(65535)", t.x.memory(65535), -1);
-        t.due("memory(65536)", t.x.memory(65536), 'a');
-        t.due("memory(65556)", t.x.memory(65556), 'u');
-        t.due("memory(65557)", t.x.memory(65557), 0);
-        t.due("memory(65791)", t.x.memory(65791), 0);
-        t.due("memory(65792)", t.x.memory(65792), -1);
-        t.due("memory(min)", t.x.memory(Integer.MIN_VALUE), -1);
-        t.due("memory(max)", t.x.memory(Integer.MAX_VALUE), -1);
-        t.due("memory(-1)", t.x.memory(-1), -1);
-        t.duePointer(65544, 0xAB00000123456789L);
-        t.duePointer(65536, 0x6867666564636261L);
-        t.duePointer(65537, 0x8968676665646362L);
-        t.duePointer(65552, 0x7574737271L);
-        t.duePointer(65784, 0);
-        t.dueNoPointer(65785);
-        t.dueNoPointer(65791);
-        t.dueNoPointer(65535);
-        t.dueNoPointer(65529);
-        t.dueNoPointer(Integer.MAX_VALUE);
-        t.dueNoPointer(Integer.MIN_VALUE);
-        t.dueNoPointer(-1);
+        t.dueCounts(0, 0, 0, 0, 0, 105, 1, 0, 0, 0, 0, -1);
+        t.dueMemory(65536 + 4096, -1);
+        t.dueNoPointer(65536 + 4096);
+        t.dueNoVisit(0, 0);
+        t.due("find()", t.find("alpha"), -1);
     }
 
-    private static void slides() {
-        Probe t = new Probe("slides");
-        t.segment("a", 16, 0);
-        t.x.rebase(0, 0, (1L << 36) - 1, 1);
-        t.x.rebase(0, 8, 0, 0);
-        t.x.write();
-        t.dueLoad(3, 0, -1);
-        t.due("memory(65538)", t.x.memory(65538), -1);
-        t.due("memory(65539)", t.x.memory(65539), 2);
-        t.duePointer(65539, 1L << 56 | (1L << 36) + 2);
-        t.duePointer(65547, 3);
-        t.dueVisit(0, 65539, false, (1L << 36) - 1, 1);
-        t.dueVisit(1, 65547, false, 0, 0);
-        t.dueLoad(Integer.MAX_VALUE - 65536 - 255, 0, -1);
-        t.due("the last byte of all", t.x.memory(Integer.MAX_VALUE), 0);
-        t.dueNoPointer(Integer.MAX_VALUE - 6);
-        t.duePointer(Integer.MAX_VALUE - 7, 0);
-        t.duePointer(Integer.MAX_VALUE - 247, Integer.MAX_VALUE - 65536 - 255);
-        t.dueLoad(Integer.MAX_VALUE - 65536 - 254, 13, 0);
-        t.dueLoad(Integer.MAX_VALUE, 13, 0);
-        t.dueLoad(-65537, 13, 0);
-        t.dueLoad(Integer.MIN_VALUE, 13, 0);
-        t.due("what was loaded stays", t.x.memory(Integer.MAX_VALUE), 0);
-        t.dueLoad(-65536, 0, -1);
-        t.due("memory(0)", t.x.memory(0), 255);
-        t.due("memory(max)", t.x.memory(Integer.MAX_VALUE), -1);
-    }
-
-    private static void negativeSlide() {
-        Probe t = new Probe("a target below 0");
-        t.segment("a", 24, 0);
-        t.x.rebase(0, 0, 5, 0);
-        t.x.rebase(0, 8, 5, 0x7F);
-        t.x.rebase(0, 16, 6, 255);
-        t.x.write();
-        t.dueLoad(-6, 0, -1);
-        t.duePointer(65530, 0x00FFFFFFFFFFFFFFL);
-        t.duePointer(65538, 0x7FFFFFFFFFFFFFFFL);
-        t.duePointer(65546, 0xFF00000000000000L);
-    }
-
-    private static void manySegments() {
-        Probe t = new Probe("four segments");
-        t.x.anew(4096, 4096);
+    private static void largestMemoryLoadedAnew() {
+        Probe t = new Probe("promise 18: the largest MEMORY, loaded again and again");
+        t.x.anew(0, 4096);
         for (int s = 0; s < 4; s++) {
-            t.segment("s" + s, 1 + s, 0);
-            t.tape(new byte[] {(byte) (s + 1)}).x.fill(s, s);
+            t.segment("s", 1024, 0);
         }
+        t.x.write();
+        int from = (int) t.read(32 + 3 * 72 + 40, 8);
+        for (int k = 1; k <= 5; k++) {
+            t.patch(from, 1, k);
+            t.dueLoad(k, 0, -1);
+            t.dueMemory(k + 3 * 4096, k);
+            t.dueMemory(k + 4 * 4096 - 1, 0);
+            t.dueMemory(k + 4 * 4096, -1);
+            t.dueMemory(k - 1, -1);
+        }
+    }
+
+    private static void largestMemoryOfBytes() {
+        // The first SPAN leaves just 1024 bytes for the second SEGMENT, all of them in the IMAGE.
+        Probe t = new Probe("promise 18: a MEMORY of 16384 bytes, the last of them in the IMAGE");
+        t.segment("a", 1024, 0);
+        t.segment("b", 1024, 0);
+        t.fill("<", 1, 0);
+        t.fill(">", 1, 1023);
+        t.x.write();
+        t.patch(64, 8, 16384 - 1024);
+        t.patch(104 + 24, 8, 65536 + 16384 - 1024);
+        t.dueLoad(0, 0, -1);
+        t.dueMemory(65536 + 16384 - 1025, 0);
+        t.dueMemory(65536 + 16384 - 1024, '<');
+        t.dueMemory(65536 + 16383, '>');
+        t.dueMemory(65536 + 16384, -1);
+    }
+
+    private static void withoutSymtabBehindOneWith() {
+        Probe t = Images.rich("promise 18: an IMAGE without SYMTAB has no SYMBOLS, whatever was loaded");
+        t.dueLoad(0, 0, -1);
+        t.patch(416, 4, 1);
+        t.dueLoad(0, 0, -1);
+        t.dueCount(9, 0);
+        t.due("find()", t.find("alpha"), -1);
+        t.due("find() of nothing", t.find(""), -1);
+        t.patch(416, 4, 2);
+        t.dueLoad(0, 0, -1);
+        t.dueCount(9, 2);
+        t.due("find()", t.find("alpha"), 65541);
+    }
+
+    private static void withoutChainsBehindOneWith() {
+        Probe t = Images.rich("promise 18: an IMAGE without CHAINS has no VISITS, whatever was loaded");
+        t.dueLoad(0, 0, -1);
+        t.patch(440, 4, 1);
+        t.dueLoad(7, 0, -1);
+        t.dueCount(8, 0);
+        t.dueNoVisit(0, 0);
+        t.duePointer(65543, 70000 | 5L << 36 | 2L << 51);
+        t.patch(440, 4, 0x80000034L);
+        t.dueLoad(7, 0, -1);
+        t.dueCount(8, 5);
+        t.duePointer(65543, 70007 | 5L << 56);
+    }
+
+    private static void imageStaysAsItIs() {
+        Probe t = Images.rich("promise 18: the IMAGE stays as it is, so each POINTER is set anew");
+        long first = t.read(456, 8);
+        t.dueLoad(1, 0, -1);
+        t.dueNumber("the first POINTER", 456, 8, first);
+        t.dueLoad(1, 0, -1);
+        t.duePointer(65537, 70001 | 5L << 56);
+        t.dueLoad(2, 0, -1);
+        t.duePointer(65538, 70002 | 5L << 56);
+        t.patch(456 + 299, 1, 9);
+        t.dueMemory(65536 + 2 + 299, 0);
+        t.dueLoad(2, 0, -1);
+        t.dueMemory(65536 + 2 + 299, 9);
+        t.dueCount(5, 1228);
+    }
+
+    private static void spansThenZero() {
+        Probe t = new Probe("promise 18: their bytes, then 0");
+        t.segment("a", 1024, 0);
+        t.tape("x".repeat(1024)).x.fill(0, 0);
         t.x.write();
         t.dueLoad(0, 0, -1);
-        t.due("SEGMENTS loaded", t.x.count(7), 4);
-        for (int s = 0; s < 4; s++) {
-            t.due("a byte of segment " + s, t.x.memory(4096 * (s + 1) + s), s + 1);
-            t.due("the last byte of segment " + s, t.x.memory(4096 * (s + 2) - 1), 0);
+        t.dueMemory(65536 + 300, 'x');
+        t.x.anew(65536, 1024);
+        t.segment("a", 5, 0);
+        t.fill("abcde", 0, 0);
+        t.x.write();
+        t.dueLoad(0, 0, -1);
+        t.dueMemory(65535, -1);
+        t.dueMemory(65536, 'a');
+        t.dueMemory(65540, 'e');
+        // What was loaded there ahead of it is gone, and the byte behind in the IMAGE is not its own.
+        t.dueMemory(65541, 0);
+        t.dueMemory(65536 + 300, 0);
+        t.dueMemory(65536 + 1023, 0);
+        t.dueMemory(65536 + 1024, -1);
+    }
+
+    private static void segmentsAtTheirSlide() {
+        int[] slides = {0, 1, -1, 7, 4096, -65536, Probe.MAX - 65536 - 1023};
+        for (int slide : slides) {
+            Probe t = new Probe("promise 18: each at ADDRESS and slide");
+            for (int s = 0; s < 4; s++) {
+                t.segment("s", 1, 0);
+                t.tape(new byte[] {(byte) (200 + s)}).x.fill(s, 0);
+            }
+            t.x.write();
+            t.dueLoad(slide, 0, -1);
+            for (int s = 0; s < 4; s++) {
+                t.dueMemory(65536 + slide + 256 * s, 200 + s);
+                t.dueMemory(65536 + slide + 256 * s + 255, 0);
+            }
+            t.dueMemory(65536 + slide - 1, -1);
+            t.dueMemory(65536 + slide + 1024, -1);
         }
-        t.due("behind all", t.x.memory(4096 * 5), -1);
-        t.duePointer(8184, 0);
-        t.dueNoPointer(8185);
-        t.duePointer(8192, 512);
+    }
+
+    /** A REBASE, loaded with a slide, is set to what is due. */
+    private static void rebase(String title, long target, int high, int slide, long due) {
+        Probe t = new Probe(title);
+        t.x.anew(1 << 30, 256);
+        t.segment("a", 8, 0);
+        t.due("rebase", t.x.rebase(0, 0, target, high), true);
+        t.x.write();
+        t.dueLoad(slide, 0, -1);
+        t.duePointer((1 << 30) + slide, due);
+        t.dueVisit(0, (1 << 30) + slide, false, target, high);
+    }
+
+    private static void rebaseAndSlide() {
+        String title = "promise 18: TARGET and slide";
+        int most = Probe.MAX - (1 << 30) - 255;
+        rebase(title, 0, 0, 0, 0);
+        rebase(title, 0, 0, 1, 1);
+        rebase(title, 0, 0, most, most);
+        rebase(title, 70000, 0, 16, 70016);
+        rebase(title, 70000, 0, -70000, 0);
+        rebase(title, 0xFFFFFFFFL, 0, 1, 1L << 32);
+        rebase(title, TARGET_MOST, 0, 0, TARGET_MOST);
+        rebase(title, TARGET_MOST, 0, 1, 1L << 36);
+        rebase(title, TARGET_MOST, 255, most, 255L << 56 | TARGET_MOST + most);
+        rebase(title, 1L << 32, 0, -1, 0xFFFFFFFFL);
+    }
+
+    private static void rebaseBelowZero() {
+        String title = "promise 18: modulo 2^64, with HIGH put in the place of its highest byte";
+        long below = (1L << 56) - 1;
+        rebase(title, 0, 0, -1, below);
+        rebase(title, 5, 0, -6, below);
+        rebase(title, 5, 0, -5, 0);
+        rebase(title, 5, 0, -4, 1);
+        rebase(title, 5, 127, -6, 0x7FFFFFFFFFFFFFFFL);
+        rebase(title, 5, 128, -6, 0x80FFFFFFFFFFFFFFL);
+        rebase(title, 5, 255, -6, -1);
+        rebase(title, 0, 1, -(1 << 30), 1L << 56 | (1L << 56) - (1 << 30));
+    }
+
+    private static void rebaseHigh() {
+        for (int high : new int[] {0, 1, 127, 128, 254, 255}) {
+            rebase("promise 18: HIGH in its highest byte", 70000, high, 3, 70003 | (long) high << 56);
+        }
+    }
+
+    private static void bindAndAdded() {
+        long[][] rows = {{0, 0}, {0, 1}, {0, 255}, {1, 0}, {1000, 7}, {Probe.MAX, 0}, {Probe.MAX, 1}, {Probe.MAX, 255}};
+        for (long[] r : rows) {
+            for (int slide : new int[] {0, 9, -9}) {
+                Probe t = new Probe("promise 18: its EXPORT's address and ADDED, without the slide");
+                t.segment("a", 8, 0);
+                t.imports("e", 3, false);
+                t.x.bind(0, 0, 0, (int) r[1]);
+                t.export("e", 3, (int) r[0]);
+                t.x.write();
+                t.dueLoad(slide, 0, -1);
+                t.duePointer(65536 + slide, r[0] + r[1]);
+                t.dueVisit(0, 65536 + slide, true, 0, (int) r[1]);
+            }
+        }
+    }
+
+    private static void weakWithoutExport() {
+        for (int added : new int[] {0, 1, 255}) {
+            Probe t = new Probe("promise 18: 0 for a WEAK one without, and ADDED");
+            t.segment("a", 8, 0);
+            t.imports("e", 1, true);
+            t.x.bind(0, 0, 0, added);
+            t.export("e", 2, 500);
+            t.export("f", 1, 600);
+            t.x.write();
+            t.dueLoad(33, 0, -1);
+            t.duePointer(65569, added);
+            t.export("e", 1, 700);
+            t.dueLoad(33, 0, -1);
+            t.duePointer(65569, 700 + added);
+        }
+    }
+
+    private static void visitsInOrder() {
+        Probe t = new Probe("promise 18: VISITS in the order in which they were come to");
+        t.segment("a", 600, 0);
+        t.segment("b", 600, 0);
+        t.imports("i", 1, true);
+        t.imports("j", 1, true);
+        t.x.bind(1, 256, 1, 255);
+        t.x.rebase(0, 512, 77, 9);
+        t.x.rebase(0, 248, TARGET_MOST, 255);
+        t.x.bind(0, 4, 0, 0);
+        t.x.write();
+        t.dueLoad(5, 0, -1);
+        t.dueCount(8, 4);
+        t.dueVisit(0, 65541 + 4, true, 0, 0);
+        t.dueVisit(1, 65541 + 248, false, TARGET_MOST, 255);
+        t.dueVisit(2, 65541 + 512, false, 77, 9);
+        t.dueVisit(3, 65541 + 768 + 256, true, 1, 255);
     }
 
     private static void lastPointerOfAll() {
-        Probe t = new Probe("a pointer at the end of the largest memory");
+        Probe t = new Probe("promise 18: a POINTER at the end of the largest MEMORY");
         t.x.anew(4096, 4096);
         for (int s = 0; s < 4; s++) {
             t.segment("s" + s, 1024, 0);
@@ -194,194 +472,33 @@ public final class LoadTest {
         t.duePointer(1 + 4096 * 5 - 8, 1);
     }
 
-    private static void visits() {
-        Probe t = new Probe("promise 22");
-        t.segment("a", 600, 0);
-        t.segment("b", 600, 0);
-        t.imports("i", 1, true);
-        t.imports("j", 1, true);
-        t.x.bind(1, 256, 1, 255);
-        t.x.rebase(0, 512, 77, 9);
-        t.x.rebase(0, 248, (1L << 36) - 1, 255);
-        t.x.bind(0, 4, 0, 0);
-        t.x.write();
-        t.dueLoad(0, 0, -1);
-        t.due("VISITS", t.x.count(8), 4);
-        t.dueVisit(0, 65540, true, 0, 0);
-        t.dueVisit(1, 65536 + 248, false, (1L << 36) - 1, 255);
-        t.dueVisit(2, 65536 + 512, false, 77, 9);
-        t.dueVisit(3, 65536 + 768 + 256, true, 1, 255);
-        t.dueNoVisit(4, 0);
-        t.dueNoVisit(-1, 0);
-        t.dueNoVisit(Integer.MAX_VALUE, 0);
-        t.dueNoVisit(Integer.MIN_VALUE, 0);
-        t.dueNoVisit(0, -1);
-        t.dueNoVisit(0, 4);
-        t.dueNoVisit(0, Integer.MIN_VALUE);
+    private static void symbolsModulo() {
+        // A SYMBOL's address may be any, its SEGMENT's is 0 or 100.
+        long[][] rows = {{0, 0, 0, 0}, {0, 2, 1, 3}, {0, Probe.MAX, 0, Probe.MAX}, {0, Probe.MAX - 1, 1, Probe.MAX},
+            {0, Probe.MAX, 1, Probe.MIN}, {0, Probe.MAX, 2, Probe.MIN + 1}, {0, Probe.MAX, Probe.MAX - 255, -257},
+            {100, 100, -100, 0}, {100, 97, -100, -3}, {100, 0, -100, -100}};
+        for (long[] r : rows) {
+            Probe t = new Probe("promise 18: SYMBOLS at address and slide, modulo 2^32");
+            t.x.anew(0, 256);
+            t.segment("a", 1, 0);
+            t.section("s", 0, 0, 1);
+            t.symbol("y", 1, 0);
+            t.x.write();
+            t.patch((int) t.read(32 + 152 + 8, 4) + 8, 8, r[1]);
+            t.patch(56, 8, r[0]);
+            t.patch(104 + 32, 8, r[0]);
+            t.dueLoad((int) r[2], 0, -1);
+            t.due("find() of " + r[1] + " with " + r[2], t.find("y"), r[3]);
+        }
     }
 
-    private static void spanBehindBytes() {
-        Probe t = new Probe("pointers behind a segment's bytes");
-        t.segment("a", 16, 0);
-        t.x.rebase(0, 8, 70000, 5);
-        t.x.write();
-        // The last place within the span: 60 fours from 8 on.
-        t.patch(152, 8, 70000 | 5L << 36 | 60L << 51);
-        t.dueLoad(2, 0, -1);
-        t.due("VISITS", t.x.count(8), 2);
-        t.dueVisit(1, 65538 + 248, false, 0, 0);
-        t.duePointer(65538 + 248, 2);
-        t.patch(152, 8, 70000 | 5L << 36 | 61L << 51);
-        t.dueLoad(2, 10, 8);
-    }
-
-    private static void pointerOverTheEndOfBytes() {
-        Probe t = new Probe("a pointer over the end of a segment's bytes");
-        t.segment("a", 16, 0);
-        t.segment("b", 16, 0);
-        t.tape("0123456789abcdef").x.fill(0, 0);
-        t.tape("ghij").x.fill(1, 0);
-        t.x.rebase(0, 0, 1, 1);
-        t.x.write();
-        // From 12 on the image has four bytes of the pointer; those behind them are the other segment's.
-        t.patch(32 + 144 + 40, 8, 1 | 1L << 36 | 3L << 51);
-        t.dueText("the bytes in the image", 32 + 144 + 40 + 12, "cdefghij");
+    private static void loadTakesNoTape() {
+        Probe t = Images.rich("promise 18: neither the tape nor what is told is changed");
+        t.x.feed(1, 2, 3, 4, 5);
         t.dueLoad(0, 0, -1);
-        t.dueVisit(1, 65548, false, 0x66656463L, 0);
-        t.duePointer(65548, 0x66656463L);
-    }
-
-    private static void symbols() {
-        Probe t = new Probe("promise 23");
-        t.segment("a", 100, 0);
-        t.section("s", 0, 10, 50);
-        t.symbol("main", 1, 5);
-        t.symbol("mai", 1, 6);
-        t.symbol("main", 1, 7);
-        t.symbol("mainx", 1, 50);
-        t.x.write();
-        t.due("nothing is loaded", t.find("main"), -1);
-        t.dueLoad(0, 0, -1);
-        t.due("SYMBOLS loaded", t.x.count(9), 4);
-        t.due("the first of two", t.find("main"), 65551);
-        t.due("the tape is empty", t.x.count(10), 0);
-        t.due("a shorter one", t.find("mai"), 65552);
-        t.due("a longer one", t.find("mainx"), 65596);
-        t.due("a part", t.find("ma"), -1);
-        t.due("the tape is empty", t.x.count(10), 0);
-        t.due("more", t.find("mainxy"), -1);
-        t.due("nothing", t.find(""), -1);
-        t.due("a 0 between two names", t.find("main\0mai"), -1);
-        t.due("a 0 behind", t.find("main\0"), -1);
-        t.due("a part of a name", t.find("ain"), -1);
-        t.due("a long tape", t.find("m".repeat(1040)), -1);
-        t.dueLoad(-5, 0, -1);
-        t.due("with the slide", t.find("main"), 65546);
-        t.x.cut(0);
-        t.due("an image is loaded no more by being gone", t.find("mai"), 65547);
-        t.x.anew(0, 256);
-        t.x.write();
-        t.due("nor by being written again", t.find("mai"), 65547);
-        t.dueLoad(0, 0, -1);
-        t.due("SYMBOLS loaded", t.x.count(9), 0);
-        t.due("gone", t.find("mai"), -1);
-    }
-
-    private static void oddSymbolNames() {
-        Probe t = new Probe("names whatever they are");
-        t.segment("a", 100, 0);
-        t.section("s", 0, 0, 50);
-        t.symbol("main", 1, 5);
-        t.symbol("other", 1, 6);
-        t.x.write();
-        int symbols = (int) t.read(32 + 152 + 8, 4);
-        int strings = (int) t.read(32 + 152 + 16, 4);
-        t.patch(symbols, 4, 0);
-        t.dueLoad(0, 0, -1);
-        t.due("the empty NAME", t.find(""), 65541);
-        t.patch(symbols, 4, 3);
-        t.dueLoad(0, 0, -1);
-        t.due("a NAME in a NAME", t.find("in"), 65541);
-        t.patchText(strings + 3, "\u00ff \1");
-        t.dueLoad(0, 0, -1);
-        t.due("bytes that are no NAME, over a 0", t.find("\u00ff \1other"), 65541);
-        t.due("the other", t.find("other"), 65542);
-        t.patch(symbols, 4, 11);
-        t.dueLoad(0, 0, -1);
-        t.due("the last 0", t.find(""), 65541);
-        t.due("SECTION 0 is none", t.x.damage(symbols + 5, 0), true);
-        t.dueLoad(0, 0, -1);
-    }
-
-    private static void wrappedSymbols() {
-        Probe t = new Probe("a symbol's address modulo 2^32");
-        t.x.anew(0, 256);
-        t.segment("a", 1, 0);
-        t.section("s", 0, 0, 1);
-        t.symbol("y", 1, 0);
-        t.x.write();
-        int symbols = (int) t.read(32 + 152 + 8, 4);
-        t.patch(symbols + 8, 8, Integer.MAX_VALUE);
-        t.dueLoad(2, 0, -1);
-        t.due("above 2^31 - 1", t.find("y"), Integer.MIN_VALUE + 1);
-        t.patch(symbols + 8, 8, 3);
-        t.patch(32 + 24, 8, 100);
-        t.patch(32 + 72 + 32, 8, 100);
-        t.dueLoad(-100, 0, -1);
-        t.due("below 0", t.find("y"), -97);
-    }
-
-    private static void whatWasLoadedStays() {
-        Probe t = new Probe("a fault changes nothing but the place");
-        t.segment("a", 16, 0);
-        t.section("s", 0, 0, 16);
-        t.symbol("y", 1, 4);
-        t.x.rebase(0, 0, 9, 0);
-        t.x.write();
-        t.dueLoad(1, 0, -1);
-        t.x.anew(0, 256);
-        t.segment("b", 300, 0);
-        t.segment("c", 300, 0);
-        t.section("s", 1, 0, 16);
-        t.symbol("z", 1, 4);
-        t.imports("none", 1, false);
-        t.x.rebase(0, 16, 8, 0);
-        t.x.bind(1, 0, 0, 0);
-        t.x.write();
-        t.dueLoad(0, 12, 512);
-        t.due("SEGMENTS loaded", t.x.count(7), 1);
-        t.due("VISITS", t.x.count(8), 1);
-        t.due("SYMBOLS loaded", t.x.count(9), 1);
-        t.due("find", t.find("y"), 65541);
-        t.due("find", t.find("z"), -1);
-        t.duePointer(65537, 10);
-        t.due("memory(0)", t.x.memory(0), -1);
-        t.dueVisit(0, 65537, false, 9, 0);
-        t.due("place()", t.x.place(), 512);
-        t.due("place() again", t.x.place(), 512);
-        t.x.write();
-        t.due("place() behind other calls", t.x.place(), 512);
-        t.export("none", 1, 0);
-        t.dueLoad(0, 0, -1);
-        t.due("SEGMENTS loaded", t.x.count(7), 2);
-        t.due("memory(65537)", t.x.memory(65537), -1);
-        t.due("find", t.find("y"), -1);
-        t.due("find", t.find("z"), 516);
-        t.dueVisit(1, 512, true, 0, 0);
-    }
-
-    private static void importsByLibrary() {
-        Probe t = new Probe("an import of another library");
-        t.segment("a", 16, 0);
-        t.imports("e", 2, false);
-        t.x.bind(0, 8, 0, 1);
-        t.export("e", 1, 10);
-        t.export("e", 3, 30);
-        t.export("ex", 2, 40);
-        t.x.write();
-        t.dueLoad(0, 12, 8);
-        t.export("e", 2, 20);
-        t.dueLoad(0, 0, -1);
-        t.duePointer(65544, 21);
+        t.dueCounts(2, 3, 2, 2, 5, 1228, 1, 2, 5, 2, 20);
+        t.x.damage(0, 0);
+        t.dueLoad(0, 2, 0);
+        t.dueCounts(2, 3, 2, 2, 5, 1228, 1, 2, 5, 2, 20);
     }
 }

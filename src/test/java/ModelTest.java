@@ -14,7 +14,7 @@ public final class ModelTest {
 
     private final Random r;
     private final int run;
-    private final ChainLoader x = new ChainLoader();
+    private final Counted x = new Counted();
     private final Model m = new Model();
     private int calls = 0;
     private final List<int[]> spoilt = new ArrayList<>();
@@ -39,7 +39,8 @@ public final class ModelTest {
         calls++;
         if (got != want) {
             wrong++;
-            System.out.println("run " + run + ", call " + calls + ": " + call + " answered " + got + ", due is " + want);
+            String where = "run " + run + ", call " + calls + ": ";
+            System.out.println(where + call + " answered " + got + ", due is " + want);
         }
     }
 
@@ -220,7 +221,11 @@ public final class ModelTest {
     private void look(int slide) {
         int at = m.base + slide + odd(4200);
         int k = odd(Math.max(1, m.visits.size()));
-        switch (r.nextInt(5)) {
+        switch (r.nextInt(6)) {
+            case 5 -> {
+                int byteAt = odd(Math.max(1, m.image.length));
+                due("image(" + byteAt + ")", x.image(byteAt), m.image(byteAt));
+            }
             case 0 -> due("memory(" + at + ")", x.memory(at), m.memory(at));
             case 1 -> duePointer(at);
             case 2 -> {

@@ -3,11 +3,15 @@ import java.util.NoSuchElementException;
 
 /** A ChainLoader under test: counts the answers that are not as due. */
 final class Probe {
+    static final int MIN = Integer.MIN_VALUE;
+    static final int MAX = Integer.MAX_VALUE;
+
     private static int wrong = 0;
 
-    ChainLoader x = new ChainLoader();
+    final Counted x = new Counted();
     private final String title;
 
+    /** The title names the promise and the sentence that a test is of. */
     Probe(String title) {
         this.title = title;
     }
@@ -19,11 +23,15 @@ final class Probe {
         }
     }
 
-    void due(String call, long got, long want) {
+    static void due(String title, String call, long got, long want) {
         if (got != want) {
             wrong++;
             System.out.println(title + ": " + call + " answered " + got + ", due is " + want);
         }
+    }
+
+    void due(String call, long got, long want) {
+        due(title, call, got, want);
     }
 
     void due(String call, boolean got, boolean want) {
@@ -56,6 +64,10 @@ final class Probe {
         return tape(name).x.segment(bytes, allowed);
     }
 
+    boolean fill(String bytes, int s, int place) {
+        return tape(bytes).x.fill(s, place);
+    }
+
     int section(String name, int s, int place, int bytes) {
         return tape(name).x.section(s, place, bytes);
     }
@@ -86,15 +98,16 @@ final class Probe {
     }
 
     /** Overwrites n bytes of the image, lowest first. */
-    void patch(int k, int n, long v) {
+    Probe patch(int k, int n, long v) {
         for (int i = 0; i < n; i++) {
             due("damage(" + (k + i) + ")", x.damage(k + i, (int) (v >>> 8 * i) & 255), true);
         }
+        return this;
     }
 
     void patchText(int k, String text) {
         for (int i = 0; i < text.length(); i++) {
-            x.damage(k + i, text.charAt(i));
+            patch(k + i, 1, text.charAt(i));
         }
     }
 
@@ -117,32 +130,38 @@ final class Probe {
     }
 
     void dueNoPointer(int address) {
+        int threw = 0;
         try {
             x.pointer(address);
-            due("pointer(" + address + ") throws", 0, 1);
         } catch (NoSuchElementException e) {
-            due("pointer(" + address + ") throws", 1, 1);
+            threw = 1;
+        }
+        due("pointer(" + address + ") throws", threw, 1);
+    }
+
+    void dueVisit(int k, int what, long want) {
+        try {
+            due("visit(" + k + ", " + what + ")", x.visit(k, what), want);
+        } catch (NoSuchElementException e) {
+            due("visit(" + k + ", " + what + ") throws", 1, 0);
         }
     }
 
     void dueVisit(int k, long address, boolean bind, long subject, int extra) {
-        try {
-            due("visit(" + k + ", 0)", x.visit(k, 0), address);
-            due("visit(" + k + ", 1)", x.visit(k, 1), bind ? 1 : 0);
-            due("visit(" + k + ", 2)", x.visit(k, 2), subject);
-            due("visit(" + k + ", 3)", x.visit(k, 3), extra);
-        } catch (NoSuchElementException e) {
-            due("visit(" + k + ") throws", 1, 0);
-        }
+        dueVisit(k, 0, address);
+        dueVisit(k, 1, bind ? 1 : 0);
+        dueVisit(k, 2, subject);
+        dueVisit(k, 3, extra);
     }
 
     void dueNoVisit(int k, int what) {
+        int threw = 0;
         try {
             x.visit(k, what);
-            due("visit(" + k + ", " + what + ") throws", 0, 1);
         } catch (NoSuchElementException e) {
-            due("visit(" + k + ", " + what + ") throws", 1, 1);
+            threw = 1;
         }
+        due("visit(" + k + ", " + what + ") throws", threw, 1);
     }
 
     void dueLoad(int slide, int kind, int place) {
@@ -150,18 +169,17 @@ final class Probe {
         due("place() behind load(" + slide + ")", x.place(), place);
     }
 
-    /** One number of the image is spoilt: the load tells the fault; then it is mended. */
-    void dueFault(int at, int n, long v, int kind, int place) {
-        long old = read(at, n);
-        patch(at, n, v);
-        due("load with " + v + " at " + at, x.load(0), kind);
-        due("place with " + v + " at " + at, x.place(), place);
-        patch(at, n, old);
+    void dueMemory(int address, int want) {
+        due("memory(" + address + ")", x.memory(address), want);
+    }
+
+    void dueCount(int what, int want) {
+        due("count(" + what + ")", x.count(what), want);
     }
 
     void dueCounts(int... want) {
         for (int what = 0; what < want.length; what++) {
-            due("count(" + what + ")", x.count(what), want[what]);
+            dueCount(what, want[what]);
         }
     }
 }
